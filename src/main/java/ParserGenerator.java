@@ -149,7 +149,7 @@ public final class ParserGenerator {
         }
 
         int make(int newKind, int a, int b) {
-            if (!leftFits(newKind, a) || !rightFits(newKind, b)) {
+            if (!within(newKind, KINDS) || !leftFits(newKind, a) || !rightFits(newKind, b)) {
                 return REFUSED;
             }
             int newLevel = levelAbove(newKind, a, b);
@@ -194,7 +194,7 @@ public final class ParserGenerator {
                 case NAMED:
                     return within(a, LABELS);
                 default:
-                    return within(newKind, KINDS) && within(a, size);
+                    return within(a, size);
             }
         }
 

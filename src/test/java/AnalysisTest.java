@@ -18,6 +18,8 @@ public final class AnalysisTest {
         clashOfOr();
         clashOfMaybeAndMany();
         noClashOfOthers();
+        compiledAnew();
+        callAsTheFirstNode();
         CHECK.end("AnalysisTest");
     }
 
@@ -222,6 +224,9 @@ public final class AnalysisTest {
         int b = x.or(two, x.maybe(one));
         x.compileAs(0, x.then(b, two));
         CHECK.same("NEXT of an EMPTY-ABLE b", x.on.clash(b), 4);
+        int ones = x.or(x.maybe(one), one);
+        x.compileAs(0, x.then(ones, two));
+        CHECK.same("FIRST of an EMPTY-ABLE a", x.on.clash(ones), 2);
         int both = x.or(x.maybe(one), x.maybe(two));
         x.compileAs(0, both);
         CHECK.same("the END in both", x.on.clash(both), END);
@@ -267,5 +272,33 @@ public final class AnalysisTest {
             CHECK.same("no clash of node " + node, x.on.clash(node), 0);
         }
         CHECK.same("the maybes have one", x.on.count(4), 2);
+    }
+
+    private static void compiledAnew() {
+        Bench x = new Bench();
+        int one = x.token(1);
+        int call = x.call(1);
+        int root = x.then(call, one);
+        x.on.rule(1, x.maybe(x.token(2)));
+        x.compileAs(0, root);
+        all("a rule that can be empty", x.on, call, 1, 4, 2);
+        all("in front", x.on, root, 0, 2 + 4, END);
+        x.on.rule(1, x.token(3));
+        x.on.compile(0);
+        all("another that can't", x.on, call, 0, 8, 2);
+        all("nothing of before is left", x.on, root, 0, 8, END);
+        x.on.rule(3, x.then(call, x.token(4)));
+        x.on.compile(3);
+        all("in another place", x.on, call, 0, 8, 16);
+    }
+
+    private static void callAsTheFirstNode() {
+        Bench x = new Bench();
+        int call = x.call(1);
+        int body = x.token(2);
+        x.on.rule(1, body);
+        CHECK.same("node 0 uses what it calls", x.compileAs(0, call), 2);
+        all("node 0", x.on, call, 0, 4, END);
+        all("what it calls", x.on, body, 0, 4, END);
     }
 }

@@ -118,6 +118,7 @@ public final class LimitTest {
         ends("88 trees and leaves", x.on, x.parseRow(0, 29), 0, 29);
         CHECK.same("88 are counted", x.on.count(2), 88);
         ends("a leaf is the 91st", x.on, x.parseRow(0, 30), LARGE, 29);
+        CHECK.same("then, named, nothing, many, and 30 times 3 steps", x.on.count(3), 4 + 90);
     }
 
     private static void largeAndMismatch() {

@@ -117,6 +117,17 @@ public final class NodeRuleTest {
         CHECK.same("a call has no b", g.node(1, 1, 99), 2);
         CHECK.same("maybe has no b", g.node(4, 1, -5), 3);
         CHECK.same("many has no b", g.node(5, 1, Integer.MAX_VALUE), 4);
+        CHECK.same("many with the number of a node as b", g.node(5, 1, 0), 5);
+        g.rule(1, 3);
+        g.rule(0, g.node(2, g.node(2, 2, 5), g.node(2, 4, 0)));
+        CHECK.same("they compile", g.compile(0), 9);
+        CHECK.same("they parse", g.parse(), 0);
+        g.rule(0, g.node(3, 5, 1));
+        CHECK.same("b of many is not used", g.compile(0), 3);
+        CHECK.same("so it has no NEXT", g.next(0), REFUSED);
+        g.rule(0, g.node(2, 0, g.node(2, 5, 0)));
+        g.compile(0);
+        CHECK.same("nor does many give it any", g.next(0), 2 + 1024);
     }
 
     private static void levels() {

@@ -80,6 +80,7 @@ public final class ParseTest {
         int or = x.or(x.maybe(one), two);
         x.compileAs(0, x.then(or, two));
         ends("an empty a by its NEXT", x.on, x.parse(2), 0, 1, NONE);
+        ends("an empty a by its FIRST", x.on, x.parse(1, 2), 0, 2, NONE);
         ends("so b is never come to", x.on, x.parse(2, 2), MISMATCH, 1, END);
         x.compileAs(0, x.or(x.maybe(one), two));
         ends("an empty a by the END", x.on, x.parse(), 0, 0, NONE);
