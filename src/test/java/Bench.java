@@ -47,6 +47,28 @@ final class Bench {
         return node;
     }
 
+    /** A node of the given level, at least 2, that parses nothing and makes 2^(level - 2) trees of it. */
+    int idleNamed(int level) {
+        int node = named(0, nothing());
+        for (int i = 2; i < level; i++) {
+            node = then(node, node);
+        }
+        return node;
+    }
+
+    /** A node that parses nothing in 1498 steps and so many more, at most 5; it takes the rules 1 to 3. */
+    int idleLong(int more) {
+        on.rule(1, idle(6));
+        int call = call(1);
+        int two = then(call, call);
+        int four = then(two, two);
+        int eight = then(four, four);
+        int sixteen = then(eight, eight);
+        on.rule(3, slower(nothing(), more));
+        on.rule(2, then(four, then(two, then(call, call(3)))));
+        return then(sixteen, call(2));
+    }
+
     /** A node that parses as b does, in so many steps more. */
     int slower(int b, int steps) {
         int node = b;
@@ -57,7 +79,9 @@ final class Bench {
     }
 
     int compileAs(int r, int node) {
-        on.rule(r, node);
+        if (on.rule(r, node) != 0) {
+            throw new IllegalArgumentException("rule " + r + " can't become node " + node);
+        }
         return on.compile(r);
     }
 
